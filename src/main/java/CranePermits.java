@@ -368,8 +368,10 @@ public final class CranePermits {
             past[past.length - 1] = oldest;
             pastCount = past.length - 1;
         }
-        past[pastCount].copyFrom(now);
-        pastCount++;
+        if (pastCount >= 0) {
+            past[pastCount].copyFrom(now);
+            pastCount++;
+        }
     }
 
     /**
