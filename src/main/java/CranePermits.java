@@ -540,6 +540,10 @@ public final class CranePermits {
             this.swing = swing;
         }
 
+        boolean isFor(Crane other) {
+            return crane.number == other.number;
+        }
+
         boolean isOf(int street, int night) {
             return crane.street == street && this.night == night;
         }
@@ -683,7 +687,7 @@ public final class CranePermits {
             int found = 0;
             for (int i = 0; i < validCount; i++) {
                 Permit permit = validAt(i);
-                if (permit != null && permit.crane == crane) {
+                if (permit != null && permit.isFor(crane)) {
                     found++;
                 }
             }
@@ -723,7 +727,7 @@ public final class CranePermits {
         }
 
         boolean shareAir(Crane crane, int night, int hours, int swing, Permit other) {
-            if (crane.number == other.crane.number || !other.meets(night, hours)) {
+            if (other.isFor(crane) || !other.meets(night, hours)) {
                 return false;
             }
             int apart = Math.abs(crane.height - other.crane.height);
@@ -766,7 +770,7 @@ public final class CranePermits {
         private boolean isBusy(Crane crane, int night, int hours) {
             for (int i = 0; i < validCount; i++) {
                 Permit permit = validAt(i);
-                if (permit != null && permit.crane == crane && permit.meets(night, hours)) {
+                if (permit != null && permit.isFor(crane) && permit.meets(night, hours)) {
                     return true;
                 }
             }
@@ -806,8 +810,9 @@ public final class CranePermits {
             put(states, permit.number, state);
             int kept = 0;
             for (int i = 0; i < validCount && i < valid.length; i++) {
-                if (valid[i] != permit) {
-                    valid[kept] = valid[i];
+                Permit other = valid[i];
+                if (other != null && other.number != permit.number) {
+                    valid[kept] = other;
                     kept++;
                 }
             }
