@@ -183,11 +183,12 @@ public final class CranePermits {
     }
 
     public int undo() {
-        if (pastCount < 1 || pastCount > past.length) {
+        Site latest = pastAt(pastCount - 1);
+        if (latest == null) {
             return NOT_POSSIBLE;
         }
         pastCount--;
-        now.copyFrom(past[pastCount]);
+        now.copyFrom(latest);
         return pastCount;
     }
 
@@ -363,15 +364,30 @@ public final class CranePermits {
     /** Keeps the state ahead of a change, in the place of the oldest one if all are taken. */
     private void remember() {
         if (pastCount >= past.length) {
-            Site oldest = past[0];
-            System.arraycopy(past, 1, past, 0, past.length - 1);
+            dropOldest();
+        }
+        Site kept = pastAt(pastCount);
+        if (kept != null) {
+            kept.copyFrom(now);
+            pastCount++;
+        }
+    }
+
+    /** Its site goes to the end of the row, so that no new one is made for the next state. */
+    private void dropOldest() {
+        Site oldest = pastAt(0);
+        for (int i = 1; i < past.length; i++) {
+            past[i - 1] = past[i];
+        }
+        if (oldest != null) {
             past[past.length - 1] = oldest;
             pastCount = past.length - 1;
         }
-        if (pastCount >= 0) {
-            past[pastCount].copyFrom(now);
-            pastCount++;
-        }
+    }
+
+    /** The site for the state with so many older ones in the history, or null. */
+    private Site pastAt(int index) {
+        return index >= 0 && index < past.length ? past[index] : null;
     }
 
     /**
@@ -809,9 +825,9 @@ public final class CranePermits {
         void end(Permit permit, int state) {
             put(states, permit.number, state);
             int kept = 0;
-            for (int i = 0; i < validCount && i < valid.length; i++) {
-                Permit other = valid[i];
-                if (other != null && other.number != permit.number) {
+            for (int i = 0; i < validCount; i++) {
+                Permit other = validAt(i);
+                if (other != null && other.number != permit.number && kept < valid.length) {
                     valid[kept] = other;
                     kept++;
                 }
